@@ -107,11 +107,14 @@ public final class InstructionsTest {
                 }
             }
         }
-        CapMachine m = Checks.machine();
-        m.poke(100, Checks.op(4, 0, 0, -3), 4);
-        m.grant(8, 0, 512, 100, 4);
-        m.run(1);
-        Checks.capability("back by two", m, 8, 1, 0, 512, 4, 0, 92);
+        for (int code = 4; code <= 6; code++) {
+            CapMachine m = new CapMachine();
+            Checks.setNumber(m, 3, code == 4 ? 0 : 1);
+            m.poke(100, Checks.op(code, 2, 3, -3), 4);
+            m.grant(8, 0, 512, 100, 4);
+            m.run(1);
+            Checks.capability("code " + code + ", back by two", m, 8, 1, 0, 512, 4, 0, 92);
+        }
     }
 
     private static void branchesFarAway() {

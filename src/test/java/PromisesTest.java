@@ -281,6 +281,9 @@ public final class PromisesTest {
         for (int p = -1; p <= 64; p++) {
             Checks.due("promise 9: tagged(" + p + ")", m.tagged(p), p == 1 || p == 63);
         }
+        CapMachine first = Checks.machine(Checks.op(22, 1, 1, 0));
+        first.run(1);
+        Checks.due("promise 9: the first place", first.tagged(0), true);
         Checks.due("promise 9: the greatest", m.tagged(Integer.MAX_VALUE), false);
         Checks.due("promise 9: the least", m.tagged(Integer.MIN_VALUE), false);
     }
