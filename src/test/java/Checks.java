@@ -3,16 +3,26 @@ final class Checks {
     /** What look calls the parts of a capability, in its order. */
     private static final String[] PARTS = {"tag", "base", "top", "permissions", "type", "address"};
     private static int wrong = 0;
+    private static String sentence = "";
 
     interface Call {
         void go();
     }
 
+    /** The sentence of the document that is tested from here on; it is told with what is wrong. */
+    static void sentence(String words) {
+        sentence = "\"" + words + "\": ";
+    }
+
     static void due(String what, long got, long want) {
         if (got != want) {
-            wrong++;
-            System.out.println(what + ": answered " + got + ", due is " + want);
+            tell(what + ": answered " + got + ", due is " + want);
         }
+    }
+
+    private static void tell(String what) {
+        wrong++;
+        System.out.println(sentence + what);
     }
 
     static void due(String what, boolean got, boolean want) {
@@ -27,8 +37,7 @@ final class Checks {
             got = e.getClass().getName();
         }
         if (!got.equals("java.lang.IllegalArgumentException")) {
-            wrong++;
-            System.out.println(what + ": threw " + got + ", due is IllegalArgumentException");
+            tell(what + ": threw " + got + ", due is IllegalArgumentException");
         }
     }
 
