@@ -34,6 +34,13 @@ public final class FaceTest {
         }
         for (Field field : CapMachine.class.getDeclaredFields()) {
             Checks.due("field " + field.getName() + " is private", Modifier.isPrivate(field.getModifiers()), true);
+            boolean changes = Modifier.isStatic(field.getModifiers()) && !Modifier.isFinal(field.getModifiers());
+            Checks.due("static field " + field.getName() + " may change", changes, false);
+        }
+        for (Class<?> inside : CapMachine.class.getDeclaredClasses()) {
+            int modifiers = inside.getModifiers();
+            boolean seen = Modifier.isPublic(modifiers) || Modifier.isProtected(modifiers);
+            Checks.due("class " + inside.getName() + " is static, and hidden", Modifier.isStatic(modifiers) && !seen, true);
         }
         Constructor<?>[] constructors = CapMachine.class.getDeclaredConstructors();
         Checks.due("constructors", constructors.length, 1);

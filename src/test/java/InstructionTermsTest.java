@@ -8,6 +8,7 @@ public final class InstructionTermsTest extends Sentences {
         steps();
         stepsAllowed();
         stepsMovePc();
+        stepsSeeStores();
         halt();
         numbers();
         sums();
@@ -35,6 +36,8 @@ public final class InstructionTermsTest extends Sentences {
         relativeToPc();
         handler();
         illegal();
+        whatAWas();
+        copiesAreApart();
         Checks.end();
     }
 
@@ -129,6 +132,14 @@ public final class InstructionTermsTest extends Sentences {
                 Checks.due("code " + code + ": cause()", m.cause(), 0);
             }
         }
+    }
+
+    private static void stepsSeeStores() {
+        sentence("AN INSTRUCTION is four bytes (those that memory holds when its step is done)");
+        Scene scene = scene().poke(128, Checks.op(21, 2, 1, 8), 4).poke(132, Checks.op(NUMBER, 5, 0, 1), 4);
+        scene.number(2, Checks.op(NUMBER, 5, 0, 2)).grant(1, 0, 512, 124, 2).grant(8, 0, 512, 128, 4);
+        Outcome due = scene.after("a store before it", m -> Checks.due("run(2)", m.run(2), 2));
+        due.word(132, Checks.op(NUMBER, 5, 0, 2)).number(5, 2).movesPc(8).check();
     }
 
     private static void halt() {
@@ -607,5 +618,60 @@ public final class InstructionTermsTest extends Sentences {
             m.run(1);
             Checks.due("code " + code + " is ILLEGAL", m.cause() == ILLEGAL, false);
         }
+    }
+
+    private static Scene doing(Scene scene, int code) {
+        scene.poke(256, 0x21, 1).grant(2, 0, 512, 256, 255).grant(3, 0, 512, 8, 255);
+        if (code == UNSEAL) {
+            scene.sealed(2, 8);
+        }
+        return scene.next(code, 4, 2, code >= 17 && code <= 19 ? 0 : 3);
+    }
+
+    private static void whatAWas() {
+        sentence("a is ... (what register a was before is of no matter where it is not named)");
+        for (int code = 1; code <= 31; code++) {
+            boolean namesA = code >= EQUAL && code <= UNLIKE || code >= 20 && code <= 22;
+            if (!namesA) {
+                CapMachine bare = doing(scene(), code).make();
+                bare.run(1);
+                int[] due = new int[6];
+                for (int part = 0; part < 6; part++) {
+                    due[part] = bare.look(4, part);
+                }
+                Scene[] others = {
+                    scene().number(4, -1), scene().grant(4, 300, 400, 350, 0), scene().grant(4, 0, 0, MIN, 255),
+                    scene().grant(4, 512, 512, MAX, 4).sealed(4, 1), scene().grant(4, 300, 300, 0, 170).sealed(4, 15),
+                    scene().grant(4, 300, 400, 350, 255).untagged(4), scene().unpacked(4, -1, -1),
+                };
+                for (Scene other : others) {
+                    CapMachine m = doing(other, code).make();
+                    Checks.due("code " + code + ": run(1)", m.run(1), 1);
+                    Checks.due("code " + code + ": cause()", m.cause(), 0);
+                    Checks.capability("code " + code, m, 4, due);
+                }
+            }
+        }
+    }
+
+    private static void copiesAreApart() {
+        sentence("7 MOVE: a is what b is. ... 16 JUMP: PC becomes b ... 31: a is PC ... 32: HANDLER is a.");
+        Scene moved = scene().grant(2, 100, 200, 150, 7).done(MOVE, 4, 2, 0);
+        moved.copy().next(9, 4, 4, 1).step("a moves, b stays").part(4, 5, 151).check();
+        moved.copy().next(9, 2, 2, 1).step("b moves, a stays").part(2, 5, 151).check();
+        moved.copy().next(NUMBER, 2, 0, 9).step("b is a number, a stays").number(2, 9).check();
+        Scene jumped = scene().poke(400, Checks.op(NUMBER, 5, 0, 9), 4).grant(2, 300, 500, 400, 7);
+        jumped.next(JUMP, 4, 2, 0).call(m -> m.run(1));
+        jumped.step("PC moves, b and the link stay").number(5, 9).check();
+        Scene relative = scene().done(31, 4, 0, 0);
+        relative.copy().next(9, 4, 4, 8).step("a moves, PC only as ever").part(4, 5, 104).check();
+        Scene set = scene().grant(2, 300, 500, 400, 7).done(32, 2, 0, 0);
+        set.copy().next(9, 2, 2, 8).step("a moves, HANDLER stays").part(2, 5, 408).check();
+        Scene taken = set.copy().poke(400, Checks.op(NUMBER, 5, 0, 9), 4).next(33, 0, 0, 0).call(m -> m.run(1));
+        taken.step("PC moves, HANDLER and FAULT stay").number(5, 9).check();
+        Scene stored = scene().grant(2, 100, 200, 150, 7).grant(3, 0, 512, 256, 255).done(22, 2, 3, 0);
+        stored.copy().next(9, 2, 2, 1).step("a moves, what is stored stays").part(2, 5, 151).check();
+        Scene loaded = stored.copy().done(19, 4, 3, 0);
+        loaded.next(9, 4, 4, 1).step("what is loaded moves, what is stored stays").part(4, 5, 151).check();
     }
 }

@@ -7,6 +7,9 @@ import java.util.Random;
 public final class RandomRunsTest {
     private static final int OBJECTS = 400;
     private static final int CALLS = 512;
+    private static final int CALLS_OF_REGISTERS = 11 * 4;
+    private static final int CALLS_OF_PLACES = 64 * 5;
+    private static final int RUNS = 100;
     private static final int[] EDGES = {
         0, 1, -1, 2, 4, 7, 8, 15, 16, 63, 64, 255, 256, 504, 508, 511, 512, 513, 2000, 2001,
         Integer.MAX_VALUE, Integer.MIN_VALUE,
@@ -14,10 +17,10 @@ public final class RandomRunsTest {
 
     public static void main(String[] args) {
         for (int seed = 0; seed < OBJECTS; seed++) {
-            oneObject(new Random(seed), seed);
+            oneObject(seed);
         }
         for (int seed = 0; seed < OBJECTS; seed++) {
-            nothingIsGained(new Random(seed), seed);
+            nothingIsGained(seed);
         }
         Checks.end();
     }
@@ -31,19 +34,25 @@ public final class RandomRunsTest {
         return Checks.op(random.nextInt(34), random.nextInt(256), random.nextInt(256), third);
     }
 
-    private static void oneObject(Random random, int seed) {
+    /** The object that random calls of this seed leave behind. */
+    private static CapMachine after(int calls, int seed) {
+        Random random = new Random(seed);
         CapMachine m = new CapMachine();
-        for (int call = 0; call < CALLS; call++) {
+        for (int call = 0; call < calls; call++) {
             String what = "object " + seed + ", call " + call;
             try {
                 oneCall(m, random, what);
             } catch (RuntimeException e) {
                 Checks.due(what + " threw " + e, true, false);
             }
-            if (call % 16 == 0) {
-                capabilitiesAreSound(m, what);
-            }
         }
+        return m;
+    }
+
+    private static void oneObject(int seed) {
+        after(CALLS, seed);
+        registersAreSound(after(CALLS - CALLS_OF_REGISTERS, seed), "object " + seed);
+        placesAreSound(after(CALLS - CALLS_OF_PLACES, seed), "object " + seed);
     }
 
     private static void oneCall(CapMachine m, Random random, String what) {
@@ -52,7 +61,7 @@ public final class RandomRunsTest {
         int y = any(random, 512);
         int z = any(random, 512);
         int bits = any(random, 256);
-        int kind = random.nextInt(10);
+        int kind = random.nextInt(12);
         if (kind == 0) {
             boolean good = r >= 0 && r <= 9 && x >= 0 && x <= y && y <= 512 && bits >= 0 && bits <= 255;
             dueThrow(what + ", grant", good, () -> m.grant(r, x, y, z, bits));
@@ -67,10 +76,14 @@ public final class RandomRunsTest {
             dueThrow(what + ", look", r >= 0 && r <= 10 && bits >= 0 && bits <= 5, () -> m.look(r, bits));
         } else if (kind == 8) {
             dueThrow(what + ", peek", x >= 0 && x <= 511, () -> m.peek(x));
+        } else if (kind == 9) {
+            int state = m.state();
+            Checks.due(what + ", state", state >= 0 && state <= 2, true);
+        } else if (kind == 10) {
+            int cause = m.cause();
+            Checks.due(what + ", cause", cause >= 0 && cause <= 8, true);
         } else {
-            m.tagged(x);
-            Checks.due(what + ", state", m.state() >= 0 && m.state() <= 2, true);
-            Checks.due(what + ", cause", m.cause() >= 0 && m.cause() <= 8, true);
+            Checks.due(what + ", tagged", m.tagged(x) && (x < 0 || x > 63), false);
         }
     }
 
@@ -82,13 +95,16 @@ public final class RandomRunsTest {
         }
     }
 
-    private static void capabilitiesAreSound(CapMachine m, String what) {
+    private static void registersAreSound(CapMachine m, String what) {
         for (int r = 0; r <= 10; r++) {
-            boolean bounds = m.look(r, 1) <= m.look(r, 2) && m.look(r, 2) <= 512;
+            int top = m.look(r, 2);
+            boolean bounds = m.look(r, 1) <= top && top <= 512;
             Checks.due(what + ", bounds of " + r, m.look(r, 0) == 0 || bounds, true);
-            boolean unsealed = m.look(r, 4) == 0;
-            Checks.due(what + ", PC and HANDLER are unsealed", r < 8 || unsealed, true);
+            Checks.due(what + ", PC and HANDLER are unsealed", m.look(r, 4) == 0 || r < 8, true);
         }
+    }
+
+    private static void placesAreSound(CapMachine m, String what) {
         for (int p = 0; p < 64; p++) {
             int packed = Checks.wordAt(m, 8 * p + 4);
             int base = packed & 1023;
@@ -98,7 +114,23 @@ public final class RandomRunsTest {
     }
 
     /** All that a program is given lies in 0 .. 256 without SEAL: so does all that it makes of it. */
-    private static void nothingIsGained(Random random, int seed) {
+    private static void nothingIsGained(int seed) {
+        for (int runs = 1; runs <= RUNS; runs += 33) {
+            CapMachine m = confined(runs, seed);
+            for (int r = 0; r <= 10; r++) {
+                boolean within = m.look(r, 2) <= 256 && (m.look(r, 3) & ~31) == 0 && m.look(r, 4) <= 1;
+                Checks.due("seed " + seed + ", register " + r + " is not more", m.look(r, 0) == 0 || within, true);
+            }
+        }
+        CapMachine before = confined(0, seed);
+        CapMachine behind = confined(RUNS, seed);
+        for (int at = 256; at < 512; at++) {
+            Checks.due("seed " + seed + ", upper byte " + at, behind.peek(at), before.peek(at));
+        }
+    }
+
+    private static CapMachine confined(int runs, int seed) {
+        Random random = new Random(seed);
         CapMachine m = new CapMachine();
         for (int at = 0; at < 512; at += 4) {
             m.poke(at, instruction(random), 4);
@@ -107,19 +139,9 @@ public final class RandomRunsTest {
             int top = r >= 8 ? 256 : random.nextInt(257);
             m.grant(r, r >= 8 ? 0 : random.nextInt(top + 1), top, 4 * random.nextInt(64), 31);
         }
-        int[] upper = new int[64];
-        for (int i = 0; i < 64; i++) {
-            upper[i] = Checks.wordAt(m, 256 + 4 * i);
-        }
-        for (int i = 0; i < 100; i++) {
+        for (int i = 0; i < runs; i++) {
             m.run(20);
-            for (int r = 0; r <= 10; r++) {
-                boolean within = m.look(r, 2) <= 256 && (m.look(r, 3) & ~31) == 0 && m.look(r, 4) <= 1;
-                Checks.due("seed " + seed + ", register " + r + " is not more", m.look(r, 0) == 0 || within, true);
-            }
         }
-        for (int i = 0; i < 64; i++) {
-            Checks.due("seed " + seed + ", upper word " + i, Checks.wordAt(m, 256 + 4 * i), upper[i]);
-        }
+        return m;
     }
 }
